@@ -34,16 +34,9 @@ public final class VoteWalls {
     // ---- 1 the yard
 
     public int yard(int sheet, int lane, int i, int n) {
-        lastFault = 0;
-        if (!isSheet(sheet)) {
-            return UNKNOWN;
-        }
-        if (!isLane(lane)) {
-            return OUTSIDE;
-        }
-        int fault = sheets[sheet].faultOfCells(lane, i, n);
-        if (fault != 0) {
-            return failed(fault);
+        int refusal = refusalOfCells(sheet, lane, i, n);
+        if (refusal != 0) {
+            return refusal;
         }
         if (!reader.takes(sheets[sheet], i, n, spare)) {
             return -100 - reader.at;
@@ -272,16 +265,9 @@ public final class VoteWalls {
     }
 
     public int walk(int sheet, int lane, int i, int n) {
-        lastFault = 0;
-        if (!isSheet(sheet)) {
-            return UNKNOWN;
-        }
-        if (!isLane(lane)) {
-            return OUTSIDE;
-        }
-        int fault = sheets[sheet].faultOfCells(lane, i, n);
-        if (fault != 0) {
-            return failed(fault);
+        int refusal = refusalOfCells(sheet, lane, i, n);
+        if (refusal != 0) {
+            return refusal;
         }
         if (!hasYard()) {
             return STATE;
@@ -582,6 +568,19 @@ public final class VoteWalls {
     private int failed(int fault) {
         lastFault = fault;
         return -10 - fault;
+    }
+
+    /** 0, if n cells of a sheet can be taken as a row of that lane: what yard and walk begin with. */
+    private int refusalOfCells(int sheet, int lane, int i, int n) {
+        lastFault = 0;
+        if (!isSheet(sheet)) {
+            return UNKNOWN;
+        }
+        if (!isLane(lane)) {
+            return OUTSIDE;
+        }
+        int fault = sheets[sheet].faultOfCells(lane, i, n);
+        return fault == 0 ? 0 : failed(fault);
     }
 
     private void forgetRules() {

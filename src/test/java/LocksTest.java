@@ -24,6 +24,22 @@ public final class LocksTest {
         check.due("no board is needed", never.apart(0, 1), 0);
         VoteWalls two = Check.yardOf("v12;04;07,p03,b11");
         check.due("of several the least", two.apart(0, 1), least(two, 0, 1));
+        // the board gets to the left one, as only the bully votes for long
+        VoteWalls voting = Check.yardOf("v10;05,b04,t06");
+        check.due("all vote", voting.apart(0, 1), 1);
+        VoteWalls late = Check.yardOf("v10;02,p01,b09");
+        late.lock(0, 0, 48);
+        check.due("together on the last Sunday alone", late.apart(0, 1), 1);
+        late.lock(0, 49, 49);
+        check.due("besides all locks", late.apart(0, 1), 0);
+        VoteWalls three = Check.yardOf("v20;05;10;15,p04,b07,b12,p18");
+        for (int p = 0; p < 4; p++) {
+            for (int other = 0; other < 4; other++) {
+                if (p != other) {
+                    check.due("three: apart(" + p + ", " + other + ")", three.apart(p, other), least(three, p, other));
+                }
+            }
+        }
     }
 
     /** By locks of the calls themselves, as the fewest, then the least. */
@@ -54,6 +70,18 @@ public final class LocksTest {
         check.due("besides all locks", x.joined(0, 1), 0);
         check.due("joined(0, 2)", x.joined(0, 2), 1);
         check.due("by none of the locks", Check.yardOf("v10;05,p00,p09").joined(0, 1), 0);
+        VoteWalls late = Check.yardOf("v10;02,p01,b09");
+        late.lock(0, 0, 48);
+        check.due("on the last Sunday", late.joined(0, 1), 1);
+        late.lock(0, 49, 49);
+        check.due("behind the last Sunday", late.joined(0, 1), 0);
+        // the first board goes to the right one only if the second board is locked
+        VoteWalls by = Check.yardOf("v12;03;07,t00,p05,b11");
+        check.due("never as it is", by.meet(0, 1), VoteWalls.NONE);
+        by.lock(1, 0, 49);
+        check.due("with the lock", by.meet(0, 1), 2);
+        by.unlock(1);
+        check.due("by a board that is locked", by.joined(0, 1), 1);
     }
 
     private static void pushed() {
@@ -65,11 +93,15 @@ public final class LocksTest {
         check.due("gap 0", x.pushed(0, 0, 0), VoteWalls.OUTSIDE);
         check.due("gap of inches", x.pushed(0, 10, 0), VoteWalls.OUTSIDE);
         check.due("gap 9", x.pushed(0, 9, 49), 2);
+        check.due("gap 1", x.pushed(0, 1, 49), 1);
         check.due("sunday -1", x.pushed(0, 5, -1), VoteWalls.OUTSIDE);
         check.due("sunday 50", x.pushed(0, 5, 50), VoteWalls.OUTSIDE);
         check.due("board 1", x.pushed(1, 0, 50), VoteWalls.UNKNOWN);
         x.strike(1, 0, 49);
         check.due("besides all strikes", x.pushed(0, 6, 0), 0);
+        // both tall ones (6) would do, but so does the bully of the right ones alone (8)
+        VoteWalls few = Check.yardOf("v10;05,b04,t06,t07,b08");
+        check.due("the fewest ahead of the least", few.pushed(0, 5, 0), 8);
         check.due("both of them", x.pushed(0, 5, 0), 5);
     }
 
@@ -86,10 +118,42 @@ public final class LocksTest {
         VoteWalls right = Check.yardOf("v10;06;08,b07,t07,p00");
         check.due("game(0), board 1", right.game(0), 1);
         check.due("game(1), board 1", right.game(1), 1);
+        // nothing moves at all: of several boards the least
+        VoteWalls still = Check.yardOf("v12;03;06;09,t00");
+        still.lock(0, 0, 49);
+        check.due("game(0) of boards alike", still.game(0), 3);
+        check.due("game(1) of boards alike", still.game(1), 0);
+        // by locks and strikes of the calls themselves: the last Sunday counts, too
+        VoteWalls late = Check.yardOf("v20;08;12,p01,t09,b11,p15");
+        late.lock(0, 2, 48);
+        gameIsSo(late);
+        gameIsSo(Check.yardOf("v20;05;09;14,p01,t03,b07,p08,p12,t13,b18"));
+        gameIsSo(Check.yardOf("v20;10;12,p09,p11,b13"));
         check.due("game(2)", right.game(2), VoteWalls.OUTSIDE);
         check.due("game(-1)", right.game(-1), VoteWalls.OUTSIDE);
         check.due("game(2) without a yard", new VoteWalls().game(2), VoteWalls.OUTSIDE);
         check.due("game(1) without a yard", new VoteWalls().game(1), VoteWalls.STATE);
+    }
+
+    private static void gameIsSo(VoteWalls x) {
+        int least = 99;
+        int board = 0;
+        for (int b = 0; b < x.many(1); b++) {
+            x.lock(b, 0, 49);
+            int most = 0;
+            for (int p = 0; p < x.many(0); p++) {
+                x.strike(p, 0, 49);
+                most = Math.max(most, x.wide(0, 49));
+                x.eat(1);
+            }
+            x.unlock(1);
+            if (most < least) {
+                least = most;
+                board = b;
+            }
+        }
+        check.due("game(0) by calls", x.game(0), least);
+        check.due("game(1) by calls", x.game(1), board);
     }
 
     private static void knocks() {
@@ -110,14 +174,22 @@ public final class LocksTest {
         wall.lock(0, 0, 49);
         wall.lock(1, 0, 49);
         check.due("never over an empty cell", wall.knocks(0, 0, 1), VoteWalls.NONE);
+        // p01 comes into cell 1 as the last Sunday ends, and is then beside cell 2
+        VoteWalls last = Check.yardOf("v12;02;06,p01,b04,b06");
+        last.lock(0, 0, 48);
+        last.lock(1, 0, 49);
+        check.due("boards as they are on the last one", last.knocks(0, 49, 2), 49);
+        check.due("by the one between", last.knocks(0, 48, 2), 49);
+        last.lock(0, 49, 49);
+        check.due("too far on the last one", last.knocks(0, 49, 2), VoteWalls.NONE);
     }
 
     private static void walk() {
         VoteWalls x = Check.yardOf("v12;03;06;07,p00,p03,p06,p07");
-        Check.row(x, 0, 0, 1, 1, 0, 2, 1, 2, 2, 3);
+        Check.row(x, 0, 0, 1, 1, 0, 0, 1, 3, 2, 3);
         check.due("none", x.walk(0, 2, 0, 0), 0);
         check.due("one", x.walk(0, 2, 0, 1), 1);
-        check.due("till two cells on", x.walk(0, 2, 0, 9), 4);
+        check.due("till two cells on", x.walk(0, 2, 0, 9), 6);
         check.due("not from cell 0", x.walk(0, 2, 1, 3), 0);
         check.due("from another place", x.walk(0, 2, 3, 1), 1);
         Check.row(x, 0, 0, 1, 2, 2);
@@ -127,6 +199,10 @@ public final class LocksTest {
         Check.row(y, 1, 0, 1, 1, 1, 1);
         check.due("first one wide as Sunday 0 ends", y.walk(1, 2, 0, 1), 1);
         check.due("each as its Sunday ends", y.walk(1, 2, 0, 5), 2);
+        VoteWalls end = Check.yardOf("v10;03,b09");
+        end.lock(0, 0, 47);
+        end.sheet(1, 1, 50);
+        check.due("2 wide as Sunday 48 ends, 1 wide as 49 ends", end.walk(1, 1, 0, 50), 49);
         VoteWalls z = Check.yardOf("v10;01;05,p02");
         Check.row(z, 1, 0);
         check.due("cell 0 is 1 wide", z.walk(1, 2, 0, 1), 0);
@@ -153,6 +229,7 @@ public final class LocksTest {
         check.due("a later one is no cell", x.walk(0, 0, 10, 50), VoteWalls.UNKNOWN);
         x.put(0, 55, -1);
         check.due("cell -1", x.walk(0, 0, 10, 50), VoteWalls.UNKNOWN);
+        check.due("the first one is no cell", x.walk(0, 0, 55, 1), VoteWalls.UNKNOWN);
         check.due("ahead of it", x.walk(0, 0, 10, 45), 45);
     }
 }

@@ -51,6 +51,10 @@ public final class SeenTest {
         x.back(1);
         x.strike(1, 0, 0);
         check.due("besides the strikes that are told", x.struck(), 7);
+        VoteWalls late = Check.yardOf("v10;05,p02,p03,b09");
+        late.lock(0, 0, 48);
+        late.reading(0, 49, 6);
+        check.due("on the last Sunday", late.struck(), 4);
         check.due("without a yard", new VoteWalls().struck(), VoteWalls.STATE);
     }
 
@@ -69,6 +73,11 @@ public final class SeenTest {
         check.due("the law stays", x.many(6), 1);
         x.reading(0, 0, 5);
         check.due("by none", x.laws(), 0);
+        VoteWalls late = Check.yardOf("v10;04;05,b00,t04");
+        late.lock(0, 0, 48);
+        late.lock(1, 0, 48);
+        late.reading(0, 49, 5);
+        check.due("on the last Sunday", late.laws(), 2);
         check.due("without a yard", new VoteWalls().laws(), VoteWalls.STATE);
     }
 
@@ -84,6 +93,10 @@ public final class SeenTest {
         check.due("nowhere", x.stood(1), 0);
         check.due("his place stays", x.ofPrisoner(0, 1), 2);
         check.due("gap stays", x.gap(0, 0), 5);
+        x.back(1);
+        x.lock(0, 0, 48);
+        x.reading(0, 49, 4);
+        check.due("on the last Sunday", x.stood(0), 1023 - 31);
         check.due("stood(2)", x.stood(2), VoteWalls.UNKNOWN);
         check.due("stood(-1)", x.stood(-1), VoteWalls.UNKNOWN);
         check.due("30 places", Check.yardOf("v30;05,p02").stood(0), (1 << 30) - 1);

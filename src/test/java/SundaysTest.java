@@ -4,6 +4,8 @@ public final class SundaysTest {
 
     public static void main(String[] args) {
         gaps();
+        locksAndStrikesTogether();
+        strikeAfterStillness();
         boardsInTheWay();
         cells();
         widths();
@@ -33,6 +35,35 @@ public final class SundaysTest {
         check.due("as many on both sides", alike.gap(0, 49), 5);
         VoteWalls bully = Check.yardOf("v10;05,p04,t02,b05");
         check.due("4 against 3", bully.gap(0, 0), 4);
+        VoteWalls edge = Check.yardOf("v30;28,b29,t00");
+        check.due("who stands at the last inch votes", edge.gap(0, 0), 27);
+        VoteWalls wall = Check.yardOf("v30;29,t29,p00");
+        check.due("behind the last gap, too", wall.gap(0, 0), 28);
+    }
+
+    private static void locksAndStrikesTogether() {
+        VoteWalls x = Check.yardOf("v30;10;20,t00,b29,p15");
+        x.lock(0, 0, 3);
+        x.lock(1, 2, 5);
+        x.strike(0, 5, 6);
+        x.strike(1, 6, 7);
+        int[] first = {10, 10, 10, 10, 11, 10, 9, 10, 11};
+        int[] second = {19, 18, 18, 18, 18, 18, 19, 20, 19};
+        for (int s = 0; s < first.length; s++) {
+            check.due("both: gap(0, " + s + ")", x.gap(0, s), first[s]);
+            check.due("both: gap(1, " + s + ")", x.gap(1, s), second[s]);
+        }
+    }
+
+    private static void strikeAfterStillness() {
+        VoteWalls x = Check.yardOf("v10;05,p02,p07");
+        x.strike(1, 10, 12);
+        check.due("still: gap(0, 9)", x.gap(0, 9), 5);
+        check.due("on strike: gap(0, 10)", x.gap(0, 10), 6);
+        check.due("on strike: gap(0, 12)", x.gap(0, 12), 8);
+        check.due("the other one is among the left ones", x.cellOf(1, 12), 0);
+        check.due("both push: gap(0, 13)", x.gap(0, 13), 9);
+        check.due("rests()", x.rests(), 14);
     }
 
     private static void boardsInTheWay() {

@@ -61,6 +61,7 @@ public final class YardTest {
     private static void firstFaults() {
         faulty("", 0);
         faulty("w10;05,p01", 0);
+        faulty(";05,p01", 0);
         faulty("v", 1);
         faulty("vx", 1);
         faulty("v40", 1);
@@ -208,6 +209,9 @@ public final class YardTest {
         check.due("many(3)", x.many(3), 6);
         check.due("unlock(6)", x.unlock(6), 0);
         check.due("gap(0, 1) unlocked", x.gap(0, 1), 7);
+        x.lock(0, 0, 0);
+        check.due("locked on the first Sunday", x.gap(0, 0), 5);
+        check.due("and not on the second one", x.gap(0, 1), 6);
         VoteWalls left = Check.yardOf("v10;05,p07");
         left.lock(0, 0, 49);
         check.due("locked against the right ones", left.gap(0, 9), 5);
