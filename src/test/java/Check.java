@@ -1,6 +1,7 @@
 /** What all tests share: rows of a call with the answer that is due, and yards by texts. */
 final class Check {
     private final String name;
+    private String sentence = "";
     private int rows = 0;
     private int wrong = 0;
 
@@ -8,11 +9,16 @@ final class Check {
         this.name = name;
     }
 
+    /** The words of the document that the rows from here on are about. */
+    void under(String where, String words) {
+        sentence = " [" + where + ": " + words + "]";
+    }
+
     void due(String call, long got, long want) {
         rows++;
         if (got != want) {
             wrong++;
-            System.out.println(name + ": " + call + " answered " + got + ", due is " + want);
+            System.out.println(name + sentence + ": " + call + " answered " + got + ", due is " + want);
         }
     }
 
@@ -20,7 +26,7 @@ final class Check {
         rows++;
         if (!holds) {
             wrong++;
-            System.out.println(name + ": not so: " + what);
+            System.out.println(name + sentence + ": not so: " + what);
         }
     }
 
@@ -39,6 +45,15 @@ final class Check {
             x.put(3, k + 2, text.charAt(k));
         }
         return x.yard(3, 2, 2, n);
+    }
+
+    /** The codes go to sheet 0, to a row of that lane which has no other cells, and are taken from there. */
+    static int giveCodes(VoteWalls x, int lane, int... codes) {
+        x.sheet(0, lane, codes.length);
+        for (int k = 0; k < codes.length; k++) {
+            x.put(0, k, codes[k]);
+        }
+        return x.yard(0, lane, 0, codes.length);
     }
 
     static VoteWalls yardOf(String text) {
