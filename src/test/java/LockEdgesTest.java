@@ -88,7 +88,7 @@ public final class LockEdgesTest {
     }
 
     private static void apartByTheFewest() {
-        check.under("3", "APART for two: the fewest BOARDS");
+        check.under("section 3", "APART for two: the fewest BOARDS");
         VoteWalls x = Check.yardOf("v14;07;09;11,p10,p09,t00,p03,b07,b03");
         for (int set = 0; set < 8; set++) {
             check.isTrue("two boards are needed: " + set, keepsApart(x, set, 0, 1) == (set == 5));
@@ -98,7 +98,7 @@ public final class LockEdgesTest {
     }
 
     private static void apartTheLeast() {
-        check.under("3", "as a set: of several the least");
+        check.under("section 3", "as a set: of several the least");
         VoteWalls x = Check.yardOf("v09;01;06;07,t01,b06,b02");
         boolean[] due = {false, false, true, true, true, true, true, true};
         for (int set = 0; set < 8; set++) {
@@ -108,13 +108,13 @@ public final class LockEdgesTest {
     }
 
     private static void apartNone() {
-        check.under("3", "NONE: by none");
+        check.under("section 3", "NONE: by none");
         check.due("at one place", Check.yardOf("v10;05,p02,p02").apart(0, 1), VoteWalls.NONE);
         check.due("in one cell, whatever is locked", Check.yardOf("v10;05,p01,p02,p07").apart(0, 1), VoteWalls.NONE);
     }
 
     private static void apartOnAllSundays() {
-        check.under("3", "they are in one CELL at the end of no SUNDAY (0 .. 49)");
+        check.under("section 3", "they are in one CELL at the end of no SUNDAY (0 .. 49)");
         VoteWalls last = Check.yardOf("v10;05,p05,t01");
         last.lock(0, 0, 48);
         check.due("but for Sunday 49", last.apart(0, 1), 1);
@@ -126,7 +126,7 @@ public final class LockEdgesTest {
     }
 
     private static void apartBesidesLocks() {
-        check.under("3", "LOCKED on all SUNDAYS (besides all LOCKS)");
+        check.under("section 3", "LOCKED on all SUNDAYS (besides all LOCKS)");
         VoteWalls x = Check.yardOf("v10;05,p05,t01");
         check.due("by the board", x.apart(0, 1), 1);
         x.lock(0, 0, 49);
@@ -157,13 +157,13 @@ public final class LockEdgesTest {
     }
 
     private static void joinedByNoBoard() {
-        check.under("3", "JOINED: by some set of BOARDS that are LOCKED so (none, too)");
+        check.under("section 3", "JOINED: by some set of BOARDS that are LOCKED so (none, too)");
         check.due("by none", Check.yardOf("v10;05,p05,t01").joined(0, 1), 1);
         check.due("at one place", Check.yardOf("v10;05,p02,p02").joined(0, 1), 1);
     }
 
     private static void joinedByABoard() {
-        check.under("3", "JOINED: by some set of BOARDS that are LOCKED so");
+        check.under("section 3", "JOINED: by some set of BOARDS that are LOCKED so");
         VoteWalls x = Check.yardOf("v12;03;07,t00,p05,b11");
         check.due("not as it is", x.meet(0, 1), VoteWalls.NONE);
         check.due("by board 1", x.joined(0, 1), 1);
@@ -180,7 +180,7 @@ public final class LockEdgesTest {
     }
 
     private static void joinedOnTheLastSunday() {
-        check.under("3", "at the end of some SUNDAY");
+        check.under("section 3", "at the end of some SUNDAY");
         VoteWalls x = Check.yardOf("v10;05,p05,t01");
         x.lock(0, 0, 48);
         check.due("on Sunday 49", x.joined(0, 1), 1);
@@ -238,7 +238,7 @@ public final class LockEdgesTest {
     }
 
     private static void pushedByAll() {
-        check.under("3", "PUSHED: the fewest PRISONERS on STRIKE on all SUNDAYS");
+        check.under("section 3", "PUSHED: the fewest PRISONERS on STRIKE on all SUNDAYS");
         VoteWalls x = Check.yardOf("v10;05,p00,p00,p00,p00,p00,p00,p00,p00");
         check.due("all eight", x.pushed(0, 5, 0), 255);
         x.strike(3, 0, 49);
@@ -249,7 +249,7 @@ public final class LockEdgesTest {
     }
 
     private static void pushedTheFewestAndLeast() {
-        check.under("3", "PUSHED: as a set: of several the least");
+        check.under("section 3", "PUSHED: as a set: of several the least");
         VoteWalls x = Check.yardOf("v10;05,p05,p03,p04");
         check.due("one of two", x.pushed(0, 5, 0), 2);
         VoteWalls few = Check.yardOf("v10;05,b04,t06,t07,b08");
@@ -257,7 +257,7 @@ public final class LockEdgesTest {
     }
 
     private static void pushedNone() {
-        check.under("3", "PUSHED: NONE: by none");
+        check.under("section 3", "PUSHED: NONE: by none");
         check.due("too far for the first Sunday", Check.yardOf("v10;05,p02").pushed(0, 7, 0), VoteWalls.NONE);
         check.due("nobody pushes so", Check.yardOf("v10;05,p02").pushed(0, 4, 49), VoteWalls.NONE);
         VoteWalls locked = Check.yardOf("v10;05,p02");
@@ -288,13 +288,15 @@ public final class LockEdgesTest {
     }
 
     private static void gameOfOneBoard() {
-        check.under("3", "GAME: a warder LOCKS one BOARD on all SUNDAYS");
+        check.under("section 3", "GAME: a warder LOCKS one BOARD on all SUNDAYS");
         check.due("the least yard", Check.yardOf("v04;01,p03").game(0), 1);
         check.due("the only board is locked", Check.yardOf("v30;29,b00,b01").game(0), 29);
+        // unlocked it would go to 1, but the warder has to lock one
+        check.due("he locks one, though none were less WIDE", Check.yardOf("v10;05,p07,p08").game(0), 5);
     }
 
     private static void gameTheLeastBoard() {
-        check.under("3", "GAME: the BOARD: of several the least");
+        check.under("section 3", "GAME: the BOARD: of several the least");
         check.due("all alike", Check.yardOf("v12;01;03;05;07;09,t11").game(1), 0);
         check.due("all alike: how WIDE", Check.yardOf("v12;01;03;05;07;09,t11").game(0), 1);
         // if board 0 is not locked, the one who is not on strike pushes it to 1
@@ -304,7 +306,7 @@ public final class LockEdgesTest {
     }
 
     private static void gameBySunday49() {
-        check.under("3", "GAME: becomes the least WIDE by SUNDAY 49");
+        check.under("section 3", "GAME: becomes the least WIDE by SUNDAY 49");
         VoteWalls x = Check.yardOf("v10;05;07,b06,t06");
         x.lock(0, 0, 48);
         check.due("it moves on 49", x.game(0), 4);
@@ -316,7 +318,7 @@ public final class LockEdgesTest {
     }
 
     private static void gameOneIsAlwaysOnStrike() {
-        check.under("3", "GAME: then all let one PRISONER STRIKE, so that it becomes the most");
+        check.under("section 3", "GAME: then all let one PRISONER STRIKE, so that it becomes the most");
         // the only one who pushes board 0 to the left is on strike
         VoteWalls x = Check.yardOf("v12;04;08,b05");
         check.due("how WIDE", x.game(0), 4);
@@ -326,6 +328,15 @@ public final class LockEdgesTest {
         check.due("the warder locks board 0", y.game(1), 0);
         check.due("it stays 4 WIDE", y.game(0), 4);
         check.due("strikes stay as they are", y.many(4), 0);
+        // if nobody were on strike, cell 0 would be wider than with any one of them
+        VoteWalls z = Check.yardOf("v09;03;05;07,p03,t00,b05,b03,p05,b01");
+        z.law(1);
+        z.strike(1, 5, 11);
+        z.strike(5, 3, 15);
+        check.due("one has to strike", z.game(0), 2);
+        check.due("the BOARD then", z.game(1), 2);
+        z.lock(2, 0, 49);
+        check.due("with nobody more on strike", z.wide(0, 49), 4);
     }
 
     // ---- KNOCKS
@@ -365,7 +376,7 @@ public final class LockEdgesTest {
     }
 
     private static void knocksInOneCellOrBeside() {
-        check.under("3", "KNOCKS: all who are then in one CELL, or in a CELL beside his, know it");
+        check.under("section 3", "KNOCKS: all who are then in one CELL, or in a CELL beside his, know it");
         VoteWalls x = Check.yardOf("v12;03;06;09,p00,p00,p06,p09");
         x.lock(0, 0, 49);
         x.lock(1, 0, 49);
@@ -382,7 +393,7 @@ public final class LockEdgesTest {
     }
 
     private static void knocksTillThen() {
-        check.under("3", "KNOCKS: with somebody who knew it till then (that one, too)");
+        check.under("section 3", "KNOCKS: with somebody who knew it till then (that one, too)");
         VoteWalls x = Check.yardOf(STILL);
         check.due("a cell on", x.knocks(0, 7, 1), 7);
         check.due("two cells on", x.knocks(0, 7, 2), 8);

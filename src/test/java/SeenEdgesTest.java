@@ -98,7 +98,7 @@ public final class SeenEdgesTest {
     }
 
     private static void readingsNumbered() {
-        check.under("4", "READINGS, 8 at most, numbered by how many there are");
+        check.under("section 4", "READINGS, 8 at most, numbered by how many there are");
         VoteWalls x = Check.yardOf("v10;05,p02");
         x.reading(0, 0, 6);
         x.reading(0, 1, 9);
@@ -117,7 +117,7 @@ public final class SeenEdgesTest {
     }
 
     private static void readingsAlike() {
-        check.under("4", "all READINGS are so");
+        check.under("section 4", "all READINGS are so");
         VoteWalls x = Check.yardOf("v10;05,p02");
         x.reading(0, 0, 6);
         x.reading(0, 0, 6);
@@ -169,13 +169,13 @@ public final class SeenEdgesTest {
     }
 
     private static void struckWithoutReadings() {
-        check.under("4", "STRUCK: no READINGS: all of them are so");
+        check.under("section 4", "STRUCK: no READINGS: all of them are so");
         check.due("one", Check.yardOf("v10;05,p02").struck(), 1);
         check.due("eight", Check.yardOf(EIGHT).struck(), 255);
     }
 
     private static void struckNobody() {
-        check.under("4", "STRUCK: as a set of none");
+        check.under("section 4", "STRUCK: as a set of none");
         VoteWalls x = Check.yardOf(EIGHT);
         x.reading(0, 0, 5);
         check.due("as many on both sides, if nobody is on strike", x.gap(0, 0), 5);
@@ -183,7 +183,7 @@ public final class SeenEdgesTest {
     }
 
     private static void struckEachAlone() {
-        check.under("4", "were they on STRIKE on all SUNDAYS (each alone)");
+        check.under("section 4", "were they on STRIKE on all SUNDAYS (each alone)");
         VoteWalls x = Check.yardOf(EIGHT);
         x.reading(0, 0, 4);
         check.due("each of the left ones", x.struck(), 15);
@@ -198,7 +198,7 @@ public final class SeenEdgesTest {
     }
 
     private static void struckOnTheLastSunday() {
-        check.under("4", "READINGS: as a SUNDAY ended a BOARD was at a GAP");
+        check.under("section 4", "READINGS: as a SUNDAY ended a BOARD was at a GAP");
         VoteWalls x = Check.yardOf("v10;05,p00,p05");
         x.lock(0, 0, 48);
         x.reading(0, 48, 5);
@@ -215,12 +215,12 @@ public final class SeenEdgesTest {
     }
 
     private static void lawsWithoutReadings() {
-        check.under("4", "LAWS: no READINGS: all of them are so");
+        check.under("section 4", "LAWS: no READINGS: all of them are so");
         check.due("both", Check.yardOf("v10;05,p02").laws(), 3);
     }
 
     private static void lawsNone() {
-        check.under("4", "LAWS: those by which all READINGS are so, as a set");
+        check.under("section 4", "LAWS: those by which all READINGS are so, as a set");
         VoteWalls x = Check.yardOf("v10;04;05,p04,b05");
         x.reading(0, 0, 3);
         check.due("by both", x.laws(), 3);
@@ -235,7 +235,7 @@ public final class SeenEdgesTest {
     }
 
     private static void lawsOnTheLastSunday() {
-        check.under("4", "READINGS: as a SUNDAY ended a BOARD was at a GAP");
+        check.under("section 4", "READINGS: as a SUNDAY ended a BOARD was at a GAP");
         VoteWalls x = Check.yardOf("v10;04;05,p04,b05");
         x.lock(0, 0, 48);
         x.lock(1, 0, 48);
@@ -261,13 +261,13 @@ public final class SeenEdgesTest {
     }
 
     private static void stoodWithoutReadings() {
-        check.under("4", "STOOD: no READINGS: all PLACES");
+        check.under("section 4", "STOOD: no READINGS: all PLACES");
         check.due("4 of them", Check.yardOf("v04;01,p00").stood(0), 15);
         check.due("30 of them", Check.yardOf("v30;01,p00").stood(0), (1 << 30) - 1);
     }
 
     private static void stoodNowhere() {
-        check.under("4", "STOOD: as a set of none");
+        check.under("section 4", "STOOD: as a set of none");
         VoteWalls x = Check.yardOf("v10;05,p02");
         x.reading(0, 0, 0);
         check.due("GAP 0", x.stood(0), 0);
@@ -280,7 +280,7 @@ public final class SeenEdgesTest {
     }
 
     private static void stoodAtTheEnds() {
-        check.under("4", "STOOD of a PRISONER: PLACES, in place of his own");
+        check.under("section 4", "STOOD of a PRISONER: PLACES, in place of his own");
         VoteWalls x = Check.yardOf("v30;15,p07");
         int left = (1 << 15) - 1;
         x.reading(0, 0, 16);
@@ -297,7 +297,7 @@ public final class SeenEdgesTest {
     }
 
     private static void stoodInPlaceOfHisOwn() {
-        check.under("4", "STOOD: in place of his own");
+        check.under("section 4", "STOOD: in place of his own");
         VoteWalls x = Check.yardOf("v10;05,p02,p07");
         x.reading(0, 0, 6);
         check.due("his own is none of them", x.stood(1), 31);
@@ -375,7 +375,7 @@ public final class SeenEdgesTest {
     }
 
     private static void oddsOfAllSets() {
-        check.under("4", "ODDS: all such sets alike");
+        check.under("section 4", "ODDS: all such sets alike");
         VoteWalls few = Check.yardOf("v10;05,p00,p05,p05,p05,p05,p05,p05,p05");
         share(few, "he alone votes", of(0, 1, 0), 1, 256);
         VoteWalls most = Check.yardOf("v10;05,p00,p05,p06,p06,p06,p06,p06,p06");
@@ -384,7 +384,7 @@ public final class SeenEdgesTest {
     }
 
     private static void oddsBesidesStrikes() {
-        check.under("4", "ODDS: if each PRISONER is on STRIKE on all SUNDAYS, or is not (besides all STRIKES)");
+        check.under("section 4", "ODDS: if each PRISONER is on STRIKE on all SUNDAYS, or is not (besides all STRIKES)");
         VoteWalls x = Check.yardOf("v10;05,p00,p05");
         share(x, "one of four", of(0, 1, 0), 1, 4);
         x.strike(1, 0, 0);
@@ -394,7 +394,7 @@ public final class SeenEdgesTest {
     }
 
     private static void oddsAtFirstAndAtLast() {
-        check.under("4", "ODDS: in one CELL as it ends");
+        check.under("section 4", "ODDS: in one CELL as it ends");
         VoteWalls x = Check.yardOf("v10;05,p00,p05");
         x.lock(0, 0, 48);
         share(x, "SUNDAY 48", of(0, 1, 48), 0, 1);

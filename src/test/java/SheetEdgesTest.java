@@ -90,7 +90,7 @@ public final class SheetEdgesTest {
     }
 
     private static void sheetOfNone() {
-        check.under("5", "a row of 0 .. 60 numbers");
+        check.under("section 5", "a row of 0 .. 60 numbers");
         VoteWalls x = new VoteWalls();
         check.due("n 0", x.sheet(0, 1, 0), 1);
         check.due("it has no cells", x.put(0, 0, 1), -13);
@@ -102,7 +102,7 @@ public final class SheetEdgesTest {
     }
 
     private static void sheetAnew() {
-        check.under("5", "a row of numbers (0 at first) of a LANE");
+        check.under("section 5", "a row of numbers (0 at first) of a LANE");
         VoteWalls x = new VoteWalls();
         x.sheet(0, 2, 60);
         for (int i = 0; i < 60; i++) {
@@ -198,7 +198,7 @@ public final class SheetEdgesTest {
     }
 
     private static void cutToBytes() {
-        check.under("5", "what comes to a cell of it is cut to its LANE: 0 bytes");
+        check.under("section 5", "what comes to a cell of it is cut to its LANE: 0 bytes");
         cut(0, 127, 127);
         cut(0, 128, -128);
         cut(0, 255, -1);
@@ -210,7 +210,7 @@ public final class SheetEdgesTest {
     }
 
     private static void cutToShorts() {
-        check.under("5", "what comes to a cell of it is cut to its LANE: 1 shorts");
+        check.under("section 5", "what comes to a cell of it is cut to its LANE: 1 shorts");
         cut(1, 32767, 32767);
         cut(1, 32768, -32768);
         cut(1, 65535, -1);
@@ -223,7 +223,7 @@ public final class SheetEdgesTest {
     }
 
     private static void intsAsTheyAre() {
-        check.under("5", "what comes to a cell of it is cut to its LANE: 2 ints");
+        check.under("section 5", "what comes to a cell of it is cut to its LANE: 2 ints");
         cut(2, Integer.MAX_VALUE, Integer.MAX_VALUE);
         cut(2, Integer.MIN_VALUE, Integer.MIN_VALUE);
         cut(2, 65536, 65536);
@@ -441,7 +441,7 @@ public final class SheetEdgesTest {
     }
 
     private static void tellBodies() {
-        check.under("5", "bodies that leave their number in TRACE as they begin");
+        check.under("section 5", "bodies that leave their number in TRACE as they begin");
         String[] texts = {"v30;05,p00", "v30;05,p29", "v30;05,t00", "v30;05,t29", "v30;05,b00", "v30;05,b29"};
         int[] due = {0, 29, 100, 129, 100, 158};
         int[] trace = {left(1), left(1), left(2, 1), left(2, 1), left(3, 2, 1, 1), left(3, 2, 1, 1)};
@@ -466,7 +466,7 @@ public final class SheetEdgesTest {
     }
 
     private static void visitBodies() {
-        check.under("5", "VISITED by a lent body (4): his number; BULLIES have their own (5): 90");
+        check.under("section 5", "VISITED by a lent body (4): his number; BULLIES have their own (5): 90");
         VoteWalls x = Check.yardOf("v10;05,p09,t09,b09,p09");
         int[] due = {0, 1, 90, 3};
         int[] body = {4, 4, 5, 4};
@@ -518,7 +518,7 @@ public final class SheetEdgesTest {
     }
 
     private static void traceWraps() {
-        check.under("5", "TRACE (an int that wraps, 0 at first, becomes 31 times it and the number)");
+        check.under("section 5", "TRACE (an int that wraps, 0 at first, becomes 31 times it and the number)");
         VoteWalls x = Check.yardOf("v10;05,b09");
         check.due("at first", x.trace(), 0);
         long exact = 0;

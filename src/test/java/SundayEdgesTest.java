@@ -36,7 +36,7 @@ public final class SundayEdgesTest {
     }
 
     private static void whereOneStands() {
-        check.under("1", "one is in the CELL in which his PLACE lies");
+        check.under("section 1", "one is in the CELL in which his PLACE lies");
         VoteWalls x = Check.yardOf("v10;04;05,p00,p03,p04,p05,p09");
         int[] due = {0, 0, 1, 2, 2};
         for (int p = 0; p < due.length; p++) {
@@ -45,7 +45,7 @@ public final class SundayEdgesTest {
     }
 
     private static void moreVotes() {
-        check.under("2", "If the left ones have more, its GAP is 1 more; if the right ones have more, 1 less");
+        check.under("section 2", "If the left ones have more, its GAP is 1 more; if the right ones have more, 1 less");
         check.due("one more on the left", Check.yardOf("v10;05,t04,p05").gap(0, 0), 6);
         check.due("as many", Check.yardOf("v10;05,p04,p05").gap(0, 0), 5);
         check.due("one more on the right", Check.yardOf("v10;05,p04,t05").gap(0, 0), 4);
@@ -55,7 +55,7 @@ public final class SundayEdgesTest {
     }
 
     private static void notAtNone() {
-        check.under("2", "but not if it would then be at 0");
+        check.under("section 2", "but not if it would then be at 0");
         VoteWalls x = Check.yardOf("v10;02,p09");
         check.due("gap(0, 0)", x.gap(0, 0), 1);
         check.due("gap(0, 1)", x.gap(0, 1), 1);
@@ -64,7 +64,7 @@ public final class SundayEdgesTest {
     }
 
     private static void notAtInches() {
-        check.under("2", "or at INCHES");
+        check.under("section 2", "or at INCHES");
         VoteWalls x = Check.yardOf("v10;08,p00");
         check.due("gap(0, 0)", x.gap(0, 0), 9);
         check.due("gap(0, 1)", x.gap(0, 1), 9);
@@ -74,7 +74,7 @@ public final class SundayEdgesTest {
     }
 
     private static void notAtAnotherBoard() {
-        check.under("2", "but not if it would then be at another BOARD's GAP");
+        check.under("section 2", "but not if it would then be at another BOARD's GAP");
         VoteWalls right = Check.yardOf("v10;03;05,t00");
         check.due("gap(0, 0)", right.gap(0, 0), 4);
         check.due("gap(0, 1)", right.gap(0, 1), 4);
@@ -86,7 +86,7 @@ public final class SundayEdgesTest {
     }
 
     private static void boardByBoard() {
-        check.under("2", "BOARD by BOARD (LAW 0: from the left; LAW 1: from the right), as all stand then");
+        check.under("section 2", "BOARD by BOARD (LAW 0: from the left; LAW 1: from the right), as all stand then");
         VoteWalls x = Check.yardOf("v10;04;05,p00,t09");
         check.due("law 0: gap(0, 0)", x.gap(0, 0), 4);
         check.due("law 0: gap(1, 0)", x.gap(1, 0), 5);
@@ -107,7 +107,7 @@ public final class SundayEdgesTest {
     }
 
     private static void whoIsOnStrike() {
-        check.under("2", "but who is on STRIKE");
+        check.under("section 2", "but who is on STRIKE");
         VoteWalls x = Check.yardOf("v10;05,p04,t05");
         x.strike(1, 0, 49);
         check.due("the left one alone", x.gap(0, 0), 6);
@@ -117,7 +117,7 @@ public final class SundayEdgesTest {
     }
 
     private static void sidesOfABoard() {
-        check.under("2", "those in the CELL left of it against those in the CELL right of it");
+        check.under("section 2", "those in the CELL left of it against those in the CELL right of it");
         VoteWalls x = Check.yardOf("v12;03;06;09,b00,p03,t06,b11");
         // board 1 is between p03 and t06; the bullies are in cells that are not beside it
         x.lock(0, 0, 49);
@@ -304,7 +304,7 @@ public final class SundayEdgesTest {
     }
 
     private static void restsFirstAndLast() {
-        check.under("2", "RESTS: the first SUNDAY from which on, to SUNDAY 49, no BOARD moves");
+        check.under("section 2", "RESTS: the first SUNDAY from which on, to SUNDAY 49, no BOARD moves");
         check.due("nothing moves at all", Check.yardOf("v10;05,p04,p05").rests(), 0);
         check.due("one moves on 0 alone", Check.yardOf("v10;08,p00").rests(), 1);
         VoteWalls x = Check.yardOf("v10;05,p02");

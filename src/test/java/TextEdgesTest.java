@@ -4,6 +4,7 @@ public final class TextEdgesTest {
     private static final String LONGEST = "v30;01;02;03;04;29,p00,t01,b02,p03,t04,b29,p29,p29";
 
     public static void main(String[] args) {
+        beginsWithV();
         inches();
         howManyBoards();
         gapAboveTheOneAhead();
@@ -44,8 +45,20 @@ public final class TextEdgesTest {
         return String.valueOf(number / 10) + number % 10;
     }
 
+    private static void beginsWithV() {
+        check.under("section 1", "A YARD by a TEXT: v, two digits");
+        VoteWalls x = Check.yardOf("v10;05,p00");
+        Check.give(x, "v12;05,p00");
+        check.due("a text without INCHES, as the yards had some", Check.give(x, ";05,p00"), -100);
+        check.due("no v", Check.give(x, "10;05,p00"), -100);
+        check.due("another code", Check.give(x, "w10;05,p00"), -100);
+        check.due("two of them", Check.give(x, "vv10;05,p00"), -101);
+        check.due("none at all", Check.give(x, ""), -100);
+        check.due("the yard is as it was", x.many(2), 12);
+    }
+
     private static void inches() {
-        check.under("1", "INCHES, 04 .. 30");
+        check.under("section 1", "INCHES, 04 .. 30");
         faulty("v00;01,p00", 2);
         faulty("v03;01,p00", 2);
         taken("v04;01,p00", 1);
@@ -58,7 +71,7 @@ public final class TextEdgesTest {
     }
 
     private static void howManyBoards() {
-        check.under("1", "then 1 to 5 BOARDS");
+        check.under("section 1", "then 1 to 5 BOARDS");
         faulty("v10,p00", 3);
         String text = "v10";
         for (int b = 1; b <= 5; b++) {
@@ -70,7 +83,7 @@ public final class TextEdgesTest {
     }
 
     private static void gapAboveTheOneAhead() {
-        check.under("1", "its GAP: above that of the one ahead");
+        check.under("section 1", "its GAP: above that of the one ahead");
         taken("v20;05;06,p00", 1);
         faulty("v20;05;05,p00", 8);
         faulty("v20;05;04,p00", 8);
@@ -83,13 +96,13 @@ public final class TextEdgesTest {
     }
 
     private static void gapAboveNone() {
-        check.under("1", "its GAP: above 0");
+        check.under("section 1", "its GAP: above 0");
         faulty("v20;00,p00", 5);
         taken("v20;01,p00", 1);
     }
 
     private static void gapBelowInches() {
-        check.under("1", "its GAP: below INCHES");
+        check.under("section 1", "its GAP: below INCHES");
         taken("v15;14,p00", 1);
         faulty("v15;15,p00", 5);
         faulty("v15;16,p00", 5);
@@ -101,7 +114,7 @@ public final class TextEdgesTest {
     }
 
     private static void howManyPrisoners() {
-        check.under("1", "then 1 to 8 PRISONERS");
+        check.under("section 1", "then 1 to 8 PRISONERS");
         faulty("v10;05", 6);
         String text = "v10;05";
         for (int p = 1; p <= 8; p++) {
@@ -113,7 +126,7 @@ public final class TextEdgesTest {
     }
 
     private static void letters() {
-        check.under("1", "Kinds: 0 PRISONER (p); 1 TALL (t), a PRISONER; 2 BULLY (b), a TALL one");
+        check.under("section 1", "Kinds: 0 PRISONER (p); 1 TALL (t), a PRISONER; 2 BULLY (b), a TALL one");
         int[] codes = {'v', '1', '0', ';', '0', '5', ',', 0, '0', '0'};
         for (int code = -1; code <= 256; code++) {
             VoteWalls x = new VoteWalls();
@@ -125,7 +138,7 @@ public final class TextEdgesTest {
     }
 
     private static void places() {
-        check.under("1", "his PLACE: 00 .. INCHES less 1");
+        check.under("section 1", "his PLACE: 00 .. INCHES less 1");
         taken("v15;05,p00", 1);
         taken("v15;05,p14", 1);
         faulty("v15;05,p15", 9);
@@ -139,14 +152,14 @@ public final class TextEdgesTest {
     }
 
     private static void severalAtOnePlace() {
-        check.under("1", "several may be at one");
+        check.under("section 1", "several may be at one");
         taken("v10;05,p05,p05", 2);
         taken("v10;05,b00,b00,b00,b00,b00,b00,b00,b00", 8);
         taken("v10;05,p09,t08,p00", 3);
     }
 
     private static void secondDigit() {
-        check.under("1", "of two digits the second one, if no such number can be with it");
+        check.under("section 1", "of two digits the second one, if no such number can be with it");
         faulty("v0", 2);
         faulty("v0;", 2);
         faulty("v3;", 2);
@@ -156,7 +169,7 @@ public final class TextEdgesTest {
     }
 
     private static void firstDigit() {
-        check.under("1", "or the first one, if none begins so");
+        check.under("section 1", "or the first one, if none begins so");
         faulty("v;", 1);
         faulty("v4", 1);
         faulty("v10;1", 4);
@@ -167,7 +180,7 @@ public final class TextEdgesTest {
     }
 
     private static void noNumberAtAll() {
-        check.under("1", "also if there is none at all, as behind a GAP of INCHES less 1");
+        check.under("section 1", "also if there is none at all, as behind a GAP of INCHES less 1");
         faulty("v10;09;", 7);
         faulty("v10;09;0", 7);
         faulty("v10;09;09", 7);
@@ -197,7 +210,7 @@ public final class TextEdgesTest {
     }
 
     private static void allNumbersOfTwoDigits() {
-        check.under("1", "the first code with which no TEXT goes on");
+        check.under("section 1", "the first code with which no TEXT goes on");
         for (int n = 0; n < 100; n++) {
             numberIs("v", n, ";01,p00", 4, 30);
             numberIs("v17;", n, ",p00", 1, 16);
@@ -213,7 +226,7 @@ public final class TextEdgesTest {
     }
 
     private static void sixthBoard() {
-        check.under("1", "the ; of a sixth BOARD");
+        check.under("section 1", "the ; of a sixth BOARD");
         faulty("v30;01;02;03;04;05;", 18);
         faulty("v30;01;02;03;04;05;06,p00", 18);
         // also where no GAP is left for it
@@ -221,14 +234,14 @@ public final class TextEdgesTest {
     }
 
     private static void ninthPrisoner() {
-        check.under("1", "the , of a ninth PRISONER");
+        check.under("section 1", "the , of a ninth PRISONER");
         faulty(LONGEST + ",", 50);
         faulty(LONGEST + ",p00", 50);
         taken(LONGEST, 8);
     }
 
     private static void endsTooSoon() {
-        check.under("1", "how many codes there are, if it just ends too soon");
+        check.under("section 1", "how many codes there are, if it just ends too soon");
         for (int n = 0; n <= LONGEST.length(); n++) {
             // behind a PLACE it may end
             boolean whole = n >= 22 && (n - 18) % 4 == 0;
@@ -242,7 +255,7 @@ public final class TextEdgesTest {
     }
 
     private static void everyCodeSpoilt() {
-        check.under("1", "FIRST FAULT: the place (from 0 on)");
+        check.under("section 1", "FIRST FAULT: the place (from 0 on)");
         for (int k = 0; k < LONGEST.length(); k++) {
             faulty(LONGEST.substring(0, k) + "x" + LONGEST.substring(k + 1), k);
             faulty(LONGEST.substring(0, k) + "x", k);
@@ -252,7 +265,7 @@ public final class TextEdgesTest {
     }
 
     private static void codesBesideDigits() {
-        check.under("1", "digits 48 .. 57");
+        check.under("section 1", "digits 48 .. 57");
         faulty("v1/;05,p00", 2);
         taken("v10;05,p00", 1);
         taken("v19;05,p00", 1);
@@ -278,7 +291,7 @@ public final class TextEdgesTest {
     }
 
     private static void codesAreCutToTheirLane() {
-        check.under("5", "what comes to a cell of it is cut to its LANE");
+        check.under("section 5", "what comes to a cell of it is cut to its LANE");
         for (int lane = 0; lane < 3; lane++) {
             int[] codes = codesOf("v10;05,p00");
             check.due("lane " + lane, Check.giveCodes(new VoteWalls(), lane, codes), 1);
@@ -290,7 +303,7 @@ public final class TextEdgesTest {
     }
 
     private static void codesFarOff() {
-        check.under("1", "the first code with which no TEXT goes on");
+        check.under("section 1", "the first code with which no TEXT goes on");
         int[] far = {Integer.MIN_VALUE, Integer.MIN_VALUE + 48, -48, -1, 0, 256, Integer.MAX_VALUE};
         for (int code : far) {
             for (int k = 0; k < 10; k++) {
@@ -312,7 +325,7 @@ public final class TextEdgesTest {
     }
 
     private static void takenMakesAllAnew() {
-        check.under("1", "A TEXT that is taken makes all anew: the LAW is 0, no LOCKS, no STRIKES, no READINGS");
+        check.under("section 1", "A TEXT that is taken makes all anew: the LAW is 0, no LOCKS, no STRIKES, no READINGS");
         VoteWalls x = withRules();
         check.due("laws() ahead of it", x.laws(), 3);
         check.due("gap(0, 0) ahead of it", x.gap(0, 0), 6);
@@ -339,7 +352,7 @@ public final class TextEdgesTest {
     }
 
     private static void notTakenChangesNothing() {
-        check.under("2", "-100 less the FIRST FAULT");
+        check.under("Promise 2", "-100 less the FIRST FAULT");
         String[] texts = {"", "v31", "v20;05", "v20;05;06;07;08;09,p00x", "v05;01,p00,p01,p02,p03,p04,"};
         for (String text : texts) {
             VoteWalls x = withRules();
@@ -365,7 +378,7 @@ public final class TextEdgesTest {
     }
 
     private static void cellsFromIOn() {
-        check.under("2", "A YARD by a TEXT of n cells of a SHEET from i on");
+        check.under("Promise 2", "A YARD by a TEXT of n cells of a SHEET from i on");
         VoteWalls x = new VoteWalls();
         String cells = "xv10;05,p00,t09;";
         x.sheet(1, 0, cells.length());
@@ -404,7 +417,7 @@ public final class TextEdgesTest {
     }
 
     private static void faultsInTheirOrder() {
-        check.under("2", "UNKNOWN; OUTSIDE: lane; FAULTS CAST (nothing is no CAST), NULL, SIZE, INDEX; -100 less it");
+        check.under("Promise 2", "UNKNOWN; OUTSIDE: lane; FAULTS CAST (nothing is no CAST), NULL, SIZE, INDEX; -100 less it");
         VoteWalls x = new VoteWalls();
         x.sheet(0, 1, 3);
         int[] sheets = {-1, 4, Integer.MIN_VALUE, Integer.MAX_VALUE};

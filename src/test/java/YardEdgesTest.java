@@ -108,7 +108,7 @@ public final class YardEdgesTest {
     }
 
     private static void votes() {
-        check.under("1", "VOTES: a PRISONER 1; a TALL one 1 more; a BULLY twice what a TALL one has");
+        check.under("section 1", "VOTES: a PRISONER 1; a TALL one 1 more; a BULLY twice what a TALL one has");
         VoteWalls x = Check.yardOf("v10;05,p09,t09,b09");
         check.due("a PRISONER", x.ofPrisoner(0, 2), 1);
         check.due("a TALL one", x.ofPrisoner(1, 2), 2);
@@ -181,7 +181,7 @@ public final class YardEdgesTest {
     }
 
     private static void lockToItToo() {
-        check.under("2", "on a BOARD from a SUNDAY to another one (it, too)");
+        check.under("section 2", "on a BOARD from a SUNDAY to another one (it, too)");
         VoteWalls x = Check.yardOf("v10;05,p02");
         x.lock(0, 1, 3);
         int[] due = {5, 6, 6, 6, 6, 7, 8, 9, 9};
@@ -213,7 +213,7 @@ public final class YardEdgesTest {
     }
 
     private static void locksNumbered() {
-        check.under("2", "LOCKS, 6 at most, numbered by how many there are");
+        check.under("section 2", "LOCKS, 6 at most, numbered by how many there are");
         VoteWalls x = Check.yardOf("v10;05,p02");
         x.lock(0, 1, 1);
         x.lock(0, 2, 2);
@@ -306,7 +306,7 @@ public final class YardEdgesTest {
     }
 
     private static void strikeToItToo() {
-        check.under("2", "of a PRISONER, likewise");
+        check.under("section 2", "of a PRISONER, likewise");
         VoteWalls x = Check.yardOf("v10;05,p02");
         x.strike(0, 1, 3);
         int[] due = {5, 6, 6, 6, 6, 7, 8, 9, 9};
@@ -334,7 +334,7 @@ public final class YardEdgesTest {
     }
 
     private static void strikesNumbered() {
-        check.under("2", "STRIKES, 6 at most, numbered likewise");
+        check.under("section 2", "STRIKES, 6 at most, numbered likewise");
         VoteWalls x = Check.yardOf("v10;05,p02");
         x.strike(0, 1, 1);
         x.strike(0, 2, 2);
