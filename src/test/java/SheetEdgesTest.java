@@ -37,6 +37,7 @@ public final class SheetEdgesTest {
         asOutside();
         asCast();
         traceWraps();
+        traceStays();
         faultOfTheLatest();
         faultAheadOfAny();
         the512thCall();
@@ -533,6 +534,23 @@ public final class SheetEdgesTest {
         check.due("5 seven times", left(5, 5, 5, 5, 5, 5, 5), (int) exact);
         Check.give(x, "v10;05,p02");
         check.due("a new yard leaves it", x.trace(), wrapped);
+    }
+
+    private static void traceStays() {
+        check.under("Promise 35", "TRACE");
+        VoteWalls x = new VoteWalls();
+        check.due("without a yard", x.trace(), 0);
+        Check.give(x, "v10;05,p02,b07");
+        x.visit(0);
+        check.due("trace()", x.trace(), 4);
+        check.due("trace() twice", x.trace(), 4);
+        x.as(1, 1);
+        x.ofPrisoner(1, 2);
+        x.game(0);
+        x.odds(0, 1, 49, 0);
+        x.tell(2);
+        x.visit(-1);
+        check.due("no other call leaves a number", x.trace(), 4);
     }
 
     private static void faultOfTheLatest() {
