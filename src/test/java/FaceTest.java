@@ -43,6 +43,9 @@ public final class FaceTest {
             if (Modifier.isPublic(m.getModifiers())) {
                 open.add(m.getReturnType().getName() + " " + m.getName() + " " + m.getParameterCount());
                 names.add(m.getName());
+                for (Class<?> given : m.getParameterTypes()) {
+                    check.isTrue(m.getName() + " is given ints", given == int.class);
+                }
             } else if (!m.isSynthetic()) {
                 check.isTrue(m.getName() + " is private", Modifier.isPrivate(m.getModifiers()));
                 hidden.add(m.getName());

@@ -12,6 +12,7 @@ public final class LockEdgesTest {
         apartByNoBoard();
         apartByTheFewest();
         apartTheLeast();
+        apartTheFewestAheadOfTheLeast();
         apartNone();
         apartOnAllSundays();
         apartBesidesLocks();
@@ -105,6 +106,19 @@ public final class LockEdgesTest {
             check.isTrue("each of boards 1 and 2 does: " + set, keepsApart(x, set, 0, 1) == due[set]);
         }
         check.due("board 1", x.apart(0, 1), 2);
+    }
+
+    private static void apartTheFewestAheadOfTheLeast() {
+        check.under("section 3", "the fewest BOARDS .. as a set: of several the least");
+        // 2 and 7 are in one cell at first, and a board comes between them on Sunday 0
+        VoteWalls x = Check.yardOf("v18;04;06;08;14,t05,p04,p06,b13,b15,b02,p17,p07");
+        x.strike(7, 16, 33);
+        for (int set = 0; set < 5; set++) {
+            check.isTrue("not by " + set, !keepsApart(x, set, 2, 7));
+        }
+        check.isTrue("by boards 0 and 2", keepsApart(x, 5, 2, 7));
+        check.isTrue("by board 3 alone", keepsApart(x, 8, 2, 7));
+        check.due("one board, though 5 is less than 8", x.apart(2, 7), 8);
     }
 
     private static void apartNone() {
